@@ -193,6 +193,14 @@ public final class LayoutTest {
         DUE.equal("a width that margins leave nothing of", f.width(1), 0);
         f.viewport(0, 600);
         DUE.equal("a width in an empty viewport", f.width(1), 0);
+        f.set(1, MARGIN, 0);
+        DUE.equal("a width that padding leaves nothing of", f.width(1), 0);
+        f.viewport(100, 9);
+        f.set(1, GROW, 1);
+        DUE.equal("a height that padding leaves nothing of", f.height(1), 0);
+        f.remove(1);
+        f.add(0);
+        DUE.equal("natural width of a column of empty boxes", f.naturalWidth(0), 10);
     }
 
     private static void lineBreaks() {
@@ -321,6 +329,14 @@ public final class LayoutTest {
         f.set(1, MAX_WIDTH, 20);
         f.set(2, MIN_WIDTH, 46);
         row("width, deviations that make 0", f::width, 20, 46, 34);
+
+        // Only if all four are fixed at once do the inner two keep their parts of this round.
+        FlexibleBoxes g = leaves(4, 102, 600);
+        all(g, GROW, 1);
+        all(g, BASIS, 0);
+        g.set(1, MAX_WIDTH, 21);
+        g.set(4, MIN_WIDTH, 30);
+        row("width, deviations that make 0", g::width, 21, 26, 25, 30);
     }
 
     private static void naturalHeights() {
@@ -491,6 +507,12 @@ public final class LayoutTest {
             f.set(0, JUSTIFY, mode);
             DUE.equal("x of one box by " + mode, f.x(1), due[mode]);
         }
+        f.viewport(25, 50);
+        int[] dueBesideOne = {2, 3, 2, 2, 2};
+        for (int mode = 0; mode < 5; mode++) {
+            f.set(0, JUSTIFY, mode);
+            DUE.equal("x of one box beside one free pixel by " + mode, f.x(1), dueBesideOne[mode]);
+        }
         f.set(1, SHRINK, 0);
         f.viewport(10, 50);
         for (int mode = 0; mode < 5; mode++) {
@@ -529,6 +551,8 @@ public final class LayoutTest {
         row("y by SELF", f::y, 3, 78, 40, 3);
         f.viewport(400, 26);
         row("y without free space", f::y, 3, 3, 3, 3);
+        f.viewport(400, 27);
+        row("y beside one free pixel", f::y, 3, 4, 3, 3);
         f.viewport(400, 20);
         row("y without space", f::y, 3, 3, 3, 3);
         f.viewport(400, 101);
@@ -544,6 +568,9 @@ public final class LayoutTest {
             g.set(box, SELF, box - 1);
         }
         row("x by SELF", g::x, 1, 80, 40, 1);
+        all(g, MARGIN, 3);
+        row("x by SELF with margins", g::x, 4, 77, 40, 4);
+        all(g, MARGIN, 0);
         g.viewport(15, 400);
         row("x without space", g::x, 1, 1, 1, 1);
     }

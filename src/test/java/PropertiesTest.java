@@ -86,6 +86,12 @@ public final class PropertiesTest {
         f.set(2, FlexibleBoxes.SELF, 0);
         DUE.equal("copyStyle(2, 1)", f.copyStyle(2, 1), 2);
         DUE.equal("get(1, GAP)", f.get(1, FlexibleBoxes.GAP), 3);
+        f.set(1, FlexibleBoxes.MIN_WIDTH, 0);
+        f.set(1, FlexibleBoxes.WIDTH, 123);
+        f.set(1, FlexibleBoxes.MAX_WIDTH, 200);
+        DUE.equal("naturalWidth(2) before", f.naturalWidth(2), 1000);
+        DUE.equal("copyStyle(1, 2) behind a question", f.copyStyle(1, 2), 3);
+        DUE.equal("naturalWidth(2) behind a question", f.naturalWidth(2), 123);
         f.set(2, FlexibleBoxes.GAP, 4);
         DUE.equal("get(1, GAP) stays", f.get(1, FlexibleBoxes.GAP), 3);
         String before = Due.picture(f);

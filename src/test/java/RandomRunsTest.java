@@ -60,7 +60,16 @@ public final class RandomRunsTest {
     }
 
     private static boolean addOrRemove(Random r, FlexibleBoxes f, Model m, int family) {
-        int b = family == 0 && r.nextInt(3) > 0 ? m.now.added : box(r, m);
+        int b = box(r, m);
+        if (family == 0 && r.nextInt(3) > 0) {
+            b = m.now.added;
+        } else if (family == 2 && r.nextInt(8) > 0) {
+            b = r.nextInt(Math.min(m.now.added, 2) + 1);
+        }
+        return addOrRemoveAt(b, r, f, m);
+    }
+
+    private static boolean addOrRemoveAt(int b, Random r, FlexibleBoxes f, Model m) {
         if (r.nextInt(6) == 0) {
             return same("remove(" + b + ")", () -> f.remove(b), () -> m.remove(b));
         }

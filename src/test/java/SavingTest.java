@@ -92,5 +92,11 @@ public final class SavingTest {
         DUE.equal("add(1) after restore", f.add(1), 3);
         DUE.equal("parent(3)", f.parent(3), 1);
         DUE.equal("get(3, GROW)", f.get(3, FlexibleBoxes.GROW), 0);
+        f.save(1);
+        f.restore(0);
+        DUE.equal("add(0) after restore", f.add(0), 3);
+        DUE.equal("parent(3)", f.parent(3), 0);
+        f.restore(1);
+        DUE.equal("parent(3)", f.parent(3), 1);
     }
 }

@@ -45,10 +45,16 @@ public final class TreeTest {
         DUE.equal("boxes()", f.boxes(), 4);
         DUE.equal("child(0, 0)", f.child(0, 0), 1);
         DUE.equal("child(0, 1)", f.child(0, 1), 3);
+        DUE.equal("add(0) behind a question", f.add(0), 4);
+        DUE.equal("child(0, 2)", f.child(0, 2), 4);
+        DUE.equal("x(4)", f.x(4), 0);
+        DUE.equal("remove(4)", f.remove(4), 1);
+        DUE.equal("child(0, 2)", f.child(0, 2), -1);
         DUE.equal("get(3, ALIGN)", f.get(3, FlexibleBoxes.ALIGN), 3);
         DUE.equal("get(3, MAX_HEIGHT)", f.get(3, FlexibleBoxes.MAX_HEIGHT), 10000);
         String before = Due.picture(f);
-        DUE.index("add(4)", () -> f.add(4));
+        DUE.index("add(4), a removed one", () -> f.add(4));
+        DUE.index("add(5)", () -> f.add(5));
         DUE.index("add(-1)", () -> f.add(-1));
         DUE.index("add(40)", () -> f.add(40));
         DUE.index("add(least int)", () -> f.add(Integer.MIN_VALUE));
