@@ -1,29 +1,5 @@
-import java.util.function.IntUnaryOperator;
-
 /** Promises 11 to 19: x, y, width, height, naturalWidth, naturalHeight, lines, lineOf, overflow. */
-public final class LayoutTest {
-    private static final int DIRECTION = FlexibleBoxes.DIRECTION;
-    private static final int WRAP = FlexibleBoxes.WRAP;
-    private static final int JUSTIFY = FlexibleBoxes.JUSTIFY;
-    private static final int ALIGN = FlexibleBoxes.ALIGN;
-    private static final int GAP = FlexibleBoxes.GAP;
-    private static final int PADDING = FlexibleBoxes.PADDING;
-    private static final int MARGIN = FlexibleBoxes.MARGIN;
-    private static final int BASIS = FlexibleBoxes.BASIS;
-    private static final int GROW = FlexibleBoxes.GROW;
-    private static final int SHRINK = FlexibleBoxes.SHRINK;
-    private static final int WIDTH = FlexibleBoxes.WIDTH;
-    private static final int HEIGHT = FlexibleBoxes.HEIGHT;
-    private static final int MIN_WIDTH = FlexibleBoxes.MIN_WIDTH;
-    private static final int MIN_HEIGHT = FlexibleBoxes.MIN_HEIGHT;
-    private static final int MAX_WIDTH = FlexibleBoxes.MAX_WIDTH;
-    private static final int MAX_HEIGHT = FlexibleBoxes.MAX_HEIGHT;
-    private static final int SELF = FlexibleBoxes.SELF;
-    private static final int ORDER = FlexibleBoxes.ORDER;
-    private static final int HIDDEN = FlexibleBoxes.HIDDEN;
-    private static final int TEXT = FlexibleBoxes.TEXT;
-    private static final Due DUE = new Due();
-
+public final class LayoutTest extends Checks {
     public static void main(String[] args) {
         boxesThatAreNotThere();
         naturalWidths();
@@ -49,28 +25,6 @@ public final class LayoutTest {
         overflowOfLeaves();
         overflowOfContainers();
         DUE.end("LayoutTest");
-    }
-
-    /** An object whose root has some leaves, in a viewport. */
-    private static FlexibleBoxes leaves(int count, int width, int height) {
-        FlexibleBoxes f = new FlexibleBoxes();
-        for (int box = 0; box < count; box++) {
-            f.add(0);
-        }
-        f.viewport(width, height);
-        return f;
-    }
-
-    private static void all(FlexibleBoxes f, int property, int value) {
-        for (int box = 1; box < f.boxes(); box++) {
-            f.set(box, property, value);
-        }
-    }
-
-    private static void row(String what, IntUnaryOperator asked, int... due) {
-        for (int i = 0; i < due.length; i++) {
-            DUE.equal(what + " of box " + (i + 1), asked.applyAsInt(i + 1), due[i]);
-        }
     }
 
     private static void boxesThatAreNotThere() {
