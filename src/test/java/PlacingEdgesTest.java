@@ -16,6 +16,7 @@ public final class PlacingEdgesTest extends Checks {
         eachLineByItself();
         boxesThatTakeAllSpace();
         columnsAlike();
+        gapsAndMarginsInAColumn();
         noFreeSpaceAcross();
         lessThanNoFreeSpaceAcross();
         freeSpaceAcross();
@@ -23,6 +24,7 @@ public final class PlacingEdgesTest extends Checks {
         withinTheHeightOfTheLine();
         withinTheInnerWidth();
         marginsAcross();
+        marginsAcrossAColumn();
         DUE.end("PlacingEdgesTest");
     }
 
@@ -174,6 +176,30 @@ public final class PlacingEdgesTest extends Checks {
         }
     }
 
+    private static void justifiedBelow(FlexibleBoxes f, int[]... due) {
+        for (int mode : JUSTIFIES) {
+            f.set(0, JUSTIFY, mode);
+            row("y by JUSTIFY " + mode, f::y, due[mode]);
+        }
+    }
+
+    /** GAPs and margins are not free in a column either, and padding is not space. */
+    private static void gapsAndMarginsInAColumn() {
+        FlexibleBoxes f = column(3, 600, 56);
+        all(f, HEIGHT, 10);
+        all(f, SHRINK, 0);
+        f.set(0, GAP, 5);
+        f.set(0, PADDING, 3);
+        f.set(2, MARGIN, 5);
+        int[] due = {3, 23, 43};
+        justifiedBelow(f, due, due, due, due, due);
+        f.viewport(600, 55);
+        justifiedBelow(f, due, due, due, due, due);
+        f.viewport(600, 58);
+        justifiedBelow(f, due, new int[] {5, 25, 45}, new int[] {4, 24, 44}, new int[] {3, 24, 45},
+                new int[] {3, 24, 44});
+    }
+
     /** Boxes 1 to 4 have SELF 0 to 3: START, END, CENTER, STRETCH. */
     private static FlexibleBoxes across(int height, int space) {
         FlexibleBoxes f = leaves(4, 600, space);
@@ -265,5 +291,21 @@ public final class PlacingEdgesTest extends Checks {
         row("y beside 2", f::y, 5, 7, 6, 5);
         f.viewport(600, 28);
         row("y beside less than nothing", f::y, 5, 5, 5, 5);
+    }
+
+    private static void marginsAcrossAColumn() {
+        FlexibleBoxes f = column(4, 30, 600);
+        all(f, WIDTH, 20);
+        all(f, MARGIN, 5);
+        for (int box = 1; box <= 4; box++) {
+            f.set(box, SELF, box - 1);
+        }
+        row("x beside nothing", f::x, 5, 5, 5, 5);
+        f.viewport(31, 600);
+        row("x beside 1", f::x, 5, 6, 5, 5);
+        f.viewport(32, 600);
+        row("x beside 2", f::x, 5, 7, 6, 5);
+        f.viewport(28, 600);
+        row("x beside less than nothing", f::x, 5, 5, 5, 5);
     }
 }

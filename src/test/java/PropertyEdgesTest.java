@@ -96,18 +96,22 @@ public final class PropertyEdgesTest extends Checks {
 
     /** "WRAP ... has no effect in a column". */
     private static void noWrapInAColumn() {
+        FlexibleBoxes g = column(2, 100, 50);
+        g.set(0, GAP, 5);
+        all(g, TEXT, 7);
+        String before = layoutOf(g);
+        g.set(0, WRAP, 1);
+        DUE.same("a column with WRAP", layoutOf(g), before);
         FlexibleBoxes f = column(3, 100, 50);
         all(f, HEIGHT, 40);
+        all(f, WIDTH, 30);
         all(f, SHRINK, 0);
-        String before = Due.picture(f);
-        f.set(0, WRAP, 1);
-        f.set(0, WRAP, 0);
-        DUE.same("a column without WRAP", Due.picture(f), before);
         f.set(0, WRAP, 1);
         row("y in a column with WRAP", f::y, 0, 40, 80);
         row("x in a column with WRAP", f::x, 0, 0, 0);
         row("line in a column with WRAP", f::lineOf, 0, 1, 2);
         DUE.equal("naturalHeight(0)", f.naturalHeight(0), 120);
+        DUE.equal("naturalWidth(0)", f.naturalWidth(0), 30);
         DUE.equal("widthFor(0, 2)", f.widthFor(0, 2), NONE);
     }
 
